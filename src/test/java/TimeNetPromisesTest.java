@@ -19,6 +19,7 @@ public final class TimeNetPromisesTest {
         steps();
         path();
         pathTies();
+        pathByWhatIsOn();
         row();
         rowAt();
         length();
@@ -262,6 +263,13 @@ public final class TimeNetPromisesTest {
         due("steps(3, 3) on a cycle of 0", net.steps(3, 3), 0);
         due("steps(4, 3)", net.steps(4, 3), 2);
         due("steps(3, 6)", net.steps(3, 6), TimeNet.NONE);
+        // As long with fewer steps, where the way of more steps is met first.
+        net.add(10, 11, 1);
+        net.add(12, 13, 1);
+        net.add(11, 12, 1);
+        net.add(10, 11, 1);
+        net.add(11, 13, 2);
+        due("steps: as long with fewer, found later", net.steps(10, 13), 2);
         net.path(3, 5);
         for (int p : NO_POINTS) {
             due("steps(" + p + ", 3)", net.steps(p, 3), TimeNet.NONE);
@@ -325,6 +333,22 @@ public final class TimeNetPromisesTest {
         net.add(0, 1, -1);
         net.path(0, 9);
         dueRow("path: the least c counts", net, 6, 0, 1, 9);
+    }
+
+    private static void pathByWhatIsOn() {
+        TimeNet net = new TimeNet();
+        net.add(5, 1, 1);
+        net.add(1, 9, 1);
+        net.add(5, 2, 1);
+        net.add(2, 9, 1);
+        net.path(5, 9);
+        dueRow("path: by 1", net, 2, 5, 1, 9);
+        net.off(0);
+        net.path(5, 9);
+        dueRow("path: by 2 when the one to 1 is off", net, 2, 5, 2, 9);
+        net.on(0);
+        net.path(5, 9);
+        dueRow("path: by 1 again", net, 2, 5, 1, 9);
     }
 
     // Promise 8
