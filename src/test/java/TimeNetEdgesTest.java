@@ -8,7 +8,7 @@ public final class TimeNetEdgesTest {
     private static final long MOST = 1_000_000_000_000L;
     private static final int[] BELOW_0 = {-1, -2, -19, -20, -256, Integer.MIN_VALUE};
     // 256, 65536 and 2^30 are there because they would be points if they were cut to fewer bits.
-    private static final int[] ABOVE_19 = {20, 21, 119, 120, 256, 65536, 1 << 30, Integer.MAX_VALUE};
+    private static final int[] ABOVE_19 = {20, 21, 120, 256, 65536, 1 << 30, Integer.MAX_VALUE};
     private static final int[] ABOVE_119 = {120, 121, 128, 256, 65536, 1 << 30, Integer.MAX_VALUE};
 
     private static String edge = "";
@@ -85,6 +85,11 @@ public final class TimeNetEdgesTest {
         for (int k = 0; k + 1 < points.length; k++) net.add(points[k], points[k + 1], c);
     }
 
+    /** As chain, but the last one comes first. */
+    private static void chainFromEnd(TimeNet net, long c, int... points) {
+        for (int k = points.length - 2; k >= 0; k--) net.add(points[k], points[k + 1], c);
+    }
+
     private static int[] allPoints() {
         int[] points = new int[20];
         for (int p = 0; p < 20; p++) points[p] = p;
@@ -116,7 +121,8 @@ public final class TimeNetEdgesTest {
         edge("1: no constraints bound a point", net -> {
             for (int i = 0; i < 20; i++) {
                 for (int j = 0; j < 20; j++) {
-                    due("bound(" + i + ", " + j + ")", net.bound(i, j), i == j ? 0 : Long.MAX_VALUE);
+                    long want = i == j ? 0 : Long.MAX_VALUE;
+                    due("bound(" + i + ", " + j + ")", net.bound(i, j), want);
                 }
             }
         });
@@ -601,6 +607,7 @@ public final class TimeNetEdgesTest {
             net.on(0);
             net.off(1);
             due("on(0)", net.on(0), 0);
+            due("bound(1, 2)", net.bound(1, 2), 5);
             due("on(1)", net.on(1), REFUSED);
             dueRow(net, 2, 1, 2);
         });
@@ -700,10 +707,12 @@ public final class TimeNetEdgesTest {
             due("steps(1, 3)", net.steps(1, 3), NONE);
         });
         edge("6: i no such point", net -> {
+            net.add(0, 1, 5);
             for (int p : BELOW_0) due("steps(" + p + ", 1)", net.steps(p, 1), NONE);
             for (int p : ABOVE_19) due("steps(" + p + ", 1)", net.steps(p, 1), NONE);
         });
         edge("6: j no such point", net -> {
+            net.add(1, 0, 5);
             for (int p : BELOW_0) due("steps(1, " + p + ")", net.steps(1, p), NONE);
             for (int p : ABOVE_19) due("steps(1, " + p + ")", net.steps(1, p), NONE);
         });
@@ -734,6 +743,12 @@ public final class TimeNetEdgesTest {
             due("steps(1, 3) by 2", net.steps(1, 3), 2);
             net.add(1, 3, 2);
             due("steps(1, 3)", net.steps(1, 3), 1);
+        });
+        edge("6: the fewest steps, though more of them came first from the end on", net -> {
+            chainFromEnd(net, 1, 1, 2, 3, 4);
+            net.add(1, 9, 2);
+            net.add(9, 4, 1);
+            due("steps(1, 4)", net.steps(1, 4), 2);
         });
         edge("6: the fewest steps beside ways of 0", net -> {
             net.add(1, 2, 0);
@@ -846,6 +861,13 @@ public final class TimeNetEdgesTest {
             due("path(1, 4)", net.path(1, 4), 3);
             dueRow(net, 1, 9, 4);
         });
+        edge("7: the fewest steps, though more of them came first from the end on", net -> {
+            chainFromEnd(net, 1, 1, 2, 3, 4);
+            net.add(1, 9, 2);
+            net.add(9, 4, 1);
+            due("path(1, 4)", net.path(1, 4), 3);
+            dueRow(net, 1, 9, 4);
+        });
         edge("7: of the same steps the least points, the lesser first", net -> {
             chain(net, 1, 1, 5, 4);
             chain(net, 1, 1, 6, 4);
@@ -900,6 +922,10 @@ public final class TimeNetEdgesTest {
         edge("7: ties among what is on alone", net -> {
             chain(net, 1, 1, 5, 4);
             chain(net, 1, 1, 6, 4);
+            net.off(0);
+            net.path(1, 4);
+            dueRow(net, 1, 6, 4);
+            net.on(0);
             net.off(1);
             net.path(1, 4);
             dueRow(net, 1, 6, 4);
@@ -1097,7 +1123,9 @@ public final class TimeNetEdgesTest {
             due("length()", net.length(), -3);
             due("earliest(5)", net.earliest(5), 3);
         });
-        edge("11: point 0 itself, of a new object", net -> due("earliest(0)", net.earliest(0), 0));
+        edge("11: point 0 itself, of a new object", net -> {
+            due("earliest(0)", net.earliest(0), 0);
+        });
         edge("11: point 0 itself, round it ways above 0 and of 0", net -> {
             chain(net, 3, 0, 1, 0);
             due("earliest(0)", net.earliest(0), 0);
@@ -1116,6 +1144,15 @@ public final class TimeNetEdgesTest {
             due("earliest(5)", net.earliest(5), 4);
             net.off(2);
             due("earliest(5) with one off", net.earliest(5), 3);
+        });
+        edge("11: the row stays", net -> {
+            net.add(5, 0, -3);
+            net.add(6, 7, 4);
+            net.path(6, 7);
+            net.earliest(5);
+            net.earliest(8);
+            dueRow(net, 6, 7);
+            due("length()", net.length(), 4);
         });
         edge("11: the greatest time", net -> {
             for (int p = 0; p < 19; p++) net.add(p + 1, p, -MOST);
