@@ -685,6 +685,13 @@ public final class TimeNetEdgesTest {
             chain(net, -MOST, allPoints());
             due("bound(0, 19)", net.bound(0, 19), -19 * MOST);
         });
+        edge("5: the points may be as far apart as the bound says, and no farther", net -> {
+            chain(net, 2, 1, 2, 3);
+            net.add(1, 3, 5);
+            long farthest = net.bound(1, 3);
+            due("add(3, 1, -farthest - 1)", net.add(3, 1, -farthest - 1), REFUSED);
+            due("add(3, 1, -farthest)", net.add(3, 1, -farthest), 3);
+        });
         edge("5: of several constraints the least c counts", net -> {
             net.add(1, 2, 5);
             net.add(1, 2, 4);
@@ -1144,6 +1151,23 @@ public final class TimeNetEdgesTest {
             due("earliest(5)", net.earliest(5), 4);
             net.off(2);
             due("earliest(5) with one off", net.earliest(5), 3);
+        });
+        edge("11: it may be at its earliest time, and no earlier", net -> {
+            net.add(5, 0, -3);
+            chain(net, -2, 5, 6, 0);
+            long earliest = net.earliest(5);
+            due("add(0, 5, earliest - 1)", net.add(0, 5, earliest - 1), REFUSED);
+            due("add(0, 5, earliest)", net.add(0, 5, earliest), 3);
+        });
+        edge("11: all points at their earliest times keep to all that is on", net -> {
+            int[][] on = {{1, 0, -3}, {2, 1, -4}, {2, 0, -5}, {0, 2, 9}, {3, 2, 6}, {1, 3, 2}, {3, 0, 0}};
+            for (int k = 0; k < on.length; k++) {
+                due("add of number " + k, net.add(on[k][0], on[k][1], on[k][2]), k);
+            }
+            for (int[] c : on) {
+                long apart = net.earliest(c[1]) - net.earliest(c[0]);
+                due(c[0] + " and " + c[1] + " no farther than " + c[2], apart <= c[2], true);
+            }
         });
         edge("11: the row stays", net -> {
             net.add(5, 0, -3);

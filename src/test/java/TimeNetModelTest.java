@@ -4,13 +4,16 @@ import java.util.List;
 import java.util.NoSuchElementException;
 
 /**
- * Runs of calls against a model that takes the document at its word: it lists every path that
- * meets no point twice and picks the best one. The calls are drawn from a fixed sequence, so each
- * time they are the same.
+ * Runs of calls against a model that takes the document at its word: in runs on a few points it
+ * lists every path that meets no point twice and picks the best one; in runs on all points, where
+ * there are too many to list, it keeps the best one of each number of steps. The calls are drawn
+ * from a fixed sequence, so each time they are the same.
  */
 public final class TimeNetModelTest {
-    private static final int RUNS = 1500;
+    private static final int NARROW_RUNS = 3000;
+    private static final int WIDE_RUNS = 600;
     private static final int CALLS = 512;
+    private static final int POINTS = 20;
     private static final long MOST = 1_000_000_000_000L;
 
     private static int wrong = 0;
@@ -30,11 +33,12 @@ public final class TimeNetModelTest {
         }
     }
 
-    private static final class Model {
+    private static class Model {
         final List<Constraint> constraints = new ArrayList<>();
         final List<Boolean> on = new ArrayList<>();
         List<Integer> row = List.of();
         long length = 0;
+        int rowsWritten = 0;
 
         static boolean isPoint(int p) {
             return p >= 0 && p <= 19;
@@ -80,6 +84,7 @@ public final class TimeNetModelTest {
             row.add(x.i());
             row.addAll(back.points());
             length = back.length() + x.c();
+            rowsWritten++;
             return true;
         }
 
@@ -112,6 +117,7 @@ public final class TimeNetModelTest {
             if (best == null) return -1;
             row = best.points();
             length = best.length();
+            rowsWritten++;
             return row.size();
         }
 
@@ -125,6 +131,36 @@ public final class TimeNetModelTest {
             int alive = 0;
             for (boolean is : on) if (is) alive++;
             return alive;
+        }
+    }
+
+    private static final class WideModel extends Model {
+        @Override
+        Path best(int i, int j) {
+            if (!isPoint(i) || !isPoint(j)) return null;
+            Path[] bestFrom = new Path[POINTS];
+            bestFrom[j] = new Path(0, List.of(j));
+            Path best = bestFrom[i];
+            for (int steps = 1; steps < POINTS; steps++) {
+                bestFrom = withOneStepMore(bestFrom);
+                if (bestFrom[i] != null && bestFrom[i].betterThan(best)) best = bestFrom[i];
+            }
+            return best;
+        }
+
+        private Path[] withOneStepMore(Path[] shorter) {
+            Path[] bestFrom = new Path[POINTS];
+            for (int k = 0; k < constraints.size(); k++) {
+                Constraint x = constraints.get(k);
+                Path rest = shorter[x.j()];
+                if (!on.get(k) || rest == null) continue;
+                List<Integer> points = new ArrayList<>();
+                points.add(x.i());
+                points.addAll(rest.points());
+                Path found = new Path(x.c() + rest.length(), points);
+                if (found.betterThan(bestFrom[x.i()])) bestFrom[x.i()] = found;
+            }
+            return bestFrom;
         }
     }
 
@@ -144,22 +180,38 @@ public final class TimeNetModelTest {
         }
     }
 
-    /** What the calls of one run are taken from: few points and few values of c, for many ties. */
+    /** What the calls of one run are taken from: few values of c, for many ties. */
     private static final class Source {
         final Draw draw;
         final int[] points;
+        // With c near the difference of two times few are refused and many paths are the same.
+        final long[] times = new long[POINTS];
         final long least;
         final long greatest;
         final long unit;
+        final int adding;
 
-        Source(int seed) {
+        Source(int seed, boolean wide) {
             draw = new Draw(seed);
-            points = new int[2 + draw.below(5)];
-            for (int n = 0; n < points.length; n++) points[n] = draw.below(20);
-            if (draw.below(2) == 0) points[0] = 0;
-            least = -draw.below(4);
+            points = wide ? allPoints() : somePoints();
+            for (int p = 0; wide && p < POINTS; p++) times[p] = draw.below(9);
+            least = wide ? -draw.below(2) : -draw.below(4);
             greatest = draw.below(7);
-            unit = draw.below(5) == 0 ? MOST / 6 : 1;
+            unit = draw.below(5) == 0 ? MOST / 20 : 1;
+            adding = wide ? 8 + draw.below(8) : 1 + draw.below(40);
+        }
+
+        private static int[] allPoints() {
+            int[] all = new int[POINTS];
+            for (int p = 0; p < POINTS; p++) all[p] = p;
+            return all;
+        }
+
+        private int[] somePoints() {
+            int[] some = new int[2 + draw.below(5)];
+            for (int n = 0; n < some.length; n++) some[n] = draw.below(POINTS);
+            if (draw.below(2) == 0) some[0] = 0;
+            return some;
         }
 
         int point() {
@@ -169,13 +221,14 @@ public final class TimeNetModelTest {
             return points[draw.below(points.length)];
         }
 
-        long c() {
+        long c(int i, int j) {
             int pick = draw.below(80);
             if (pick == 0) return MOST + 1;
             if (pick == 1) return -MOST - 1;
             if (pick == 2) return MOST;
             if (pick == 3) return -MOST;
-            return (least + draw.below((int) (greatest - least) + 1)) * unit;
+            long apart = Model.isPoint(i) && Model.isPoint(j) ? times[j] - times[i] : 0;
+            return (apart + least + draw.below((int) (greatest - least) + 1)) * unit;
         }
 
         int number(int count) {
@@ -184,91 +237,123 @@ public final class TimeNetModelTest {
     }
 
     public static void main(String[] args) {
-        for (int run = 0; run < RUNS && wrong < 20; run++) {
-            runOne(run);
+        for (int run = 0; run < NARROW_RUNS && wrong < 20; run++) {
+            new Run("run " + run, new Source(run, false), new Model()).go();
+        }
+        for (int run = 0; run < WIDE_RUNS && wrong < 20; run++) {
+            new Run("wide run " + run, new Source(run, true), new WideModel()).go();
         }
         System.out.println(wrong == 0 ? "all answers are as due" : wrong + " answers are not as due");
         if (wrong != 0) System.exit(1);
     }
 
-    private static void runOne(int run) {
-        Source source = new Source(run);
-        TimeNet net = new TimeNet();
-        Model model = new Model();
-        int adding = 1 + source.draw.below(8);
-        for (int call = 0; call < CALLS; call++) {
-            String where = "run " + run + ", call " + call + ": ";
-            int kind = source.draw.below(12 + adding);
+    /** One object and its model; no more than 512 calls, as what later ones answer is free. */
+    private static final class Run {
+        final String name;
+        final Source source;
+        final TimeNet net = new TimeNet();
+        final Model model;
+        int calls = 0;
+
+        Run(String name, Source source, Model model) {
+            this.name = name;
+            this.source = source;
+            this.model = model;
+        }
+
+        void go() {
+            while (calls + 1 + callsForRow() <= CALLS) {
+                int rowsBefore = model.rowsWritten;
+                callOne(source.draw.below(12 + source.adding));
+                boolean written = model.rowsWritten > rowsBefore;
+                // The row of a witness may be longer than the one there was room for.
+                boolean room = calls + callsForRow() <= CALLS;
+                if (room && (written || source.draw.below(8) == 0)) dueRow();
+            }
+        }
+
+        private int callsForRow() {
+            return model.row.size() + 3;
+        }
+
+        private void callOne(int kind) {
+            calls++;
             if (kind >= 12) {
                 int i = source.point();
                 int j = source.point();
-                long c = source.c();
-                due(where + "add(" + i + ", " + j + ", " + c + ")", net.add(i, j, c), model.add(i, j, c));
+                long c = source.c(i, j);
+                due("add(" + i + ", " + j + ", " + c + ")", net.add(i, j, c), model.add(i, j, c));
             } else if (kind < 5) {
-                numberCall(where, kind, source.number(model.constraints.size()), net, model);
+                numberCall(kind, source.number(model.constraints.size()));
             } else {
-                pointCall(where, kind, source.point(), source.point(), net, model);
+                pointCall(kind, source.point(), source.point());
             }
-            dueRow(where, net, model);
         }
-    }
 
-    private static void numberCall(String where, int kind, int k, TimeNet net, Model model) {
-        switch (kind) {
-            case 0 -> due(where + "off(" + k + ")", net.off(k) ? 1 : 0, model.off(k) ? 1 : 0);
-            case 1, 2 -> due(where + "on(" + k + ")", net.on(k), model.on(k));
-            case 3 -> due(where + "slack(" + k + ")", net.slack(k), model.slack(k));
-            default -> due(where + "alive()", net.alive(), model.alive());
+        private void numberCall(int kind, int k) {
+            switch (kind) {
+                case 0 -> due("off(" + k + ")", net.off(k) ? 1 : 0, model.off(k) ? 1 : 0);
+                case 1, 2 -> due("on(" + k + ")", net.on(k), model.on(k));
+                case 3 -> due("slack(" + k + ")", net.slack(k), model.slack(k));
+                default -> due("alive()", net.alive(), model.alive());
+            }
         }
-    }
 
-    private static void pointCall(String where, int kind, int i, int j, TimeNet net, Model model) {
-        String at = "(" + i + ", " + j + ")";
-        Path best = model.best(i, j);
-        switch (kind) {
-            case 5, 6 -> due(where + "path" + at, net.path(i, j), model.path(i, j));
-            case 7, 8 -> due(where + "steps" + at, net.steps(i, j), best == null ? -1 : best.points().size() - 1);
-            case 9, 10 -> dueBound(where + "bound" + at, i, j, net, best);
-            default -> dueEarliest(where + "earliest(" + i + ")", i, net, model.best(i, 0));
+        private void pointCall(int kind, int i, int j) {
+            String at = "(" + i + ", " + j + ")";
+            switch (kind) {
+                case 5, 6 -> due("path" + at, net.path(i, j), model.path(i, j));
+                case 7, 8 -> due("steps" + at, net.steps(i, j), stepsOf(model.best(i, j)));
+                case 9, 10 -> dueBound("bound" + at, i, j);
+                default -> dueEarliest("earliest(" + i + ")", i);
+            }
         }
-    }
 
-    private static void dueBound(String call, int i, int j, TimeNet net, Path best) {
-        boolean throwing = !Model.isPoint(i) || !Model.isPoint(j);
-        try {
-            due(call, net.bound(i, j), best == null ? Long.MAX_VALUE : best.length());
-            due(call + " throws", 0, throwing ? 1 : 0);
-        } catch (NoSuchElementException e) {
-            due(call + " throws", 1, throwing ? 1 : 0);
+        private int stepsOf(Path best) {
+            return best == null ? -1 : best.points().size() - 1;
         }
-    }
 
-    private static void dueEarliest(String call, int i, TimeNet net, Path best) {
-        boolean throwing = !Model.isPoint(i);
-        try {
-            due(call, net.earliest(i), best == null ? Long.MIN_VALUE : -best.length());
-            due(call + " throws", 0, throwing ? 1 : 0);
-        } catch (NoSuchElementException e) {
-            due(call + " throws", 1, throwing ? 1 : 0);
+        private void dueBound(String call, int i, int j) {
+            boolean throwing = !Model.isPoint(i) || !Model.isPoint(j);
+            Path best = model.best(i, j);
+            try {
+                due(call, net.bound(i, j), best == null ? Long.MAX_VALUE : best.length());
+                due(call + " throws", 0, throwing ? 1 : 0);
+            } catch (NoSuchElementException e) {
+                due(call + " throws", 1, throwing ? 1 : 0);
+            }
         }
-    }
 
-    private static void dueRow(String where, TimeNet net, Model model) {
-        int[] want = model.row.stream().mapToInt(Integer::intValue).toArray();
-        int[] got = new int[Math.max(0, Math.min(net.row(), 21))];
-        for (int k = 0; k < got.length; k++) got[k] = net.rowAt(k);
-        due(where + "row()", net.row(), want.length);
-        due(where + "rowAt behind the end", net.rowAt(net.row()), -1);
-        due(where + "length()", net.length(), model.length);
-        if (!Arrays.equals(got, want)) {
-            due(where + "the row is " + Arrays.toString(got) + " for " + Arrays.toString(want), 0, 1);
+        private void dueEarliest(String call, int i) {
+            boolean throwing = !Model.isPoint(i);
+            Path best = model.best(i, 0);
+            try {
+                due(call, net.earliest(i), best == null ? Long.MIN_VALUE : -best.length());
+                due(call + " throws", 0, throwing ? 1 : 0);
+            } catch (NoSuchElementException e) {
+                due(call + " throws", 1, throwing ? 1 : 0);
+            }
         }
-    }
 
-    private static void due(String call, long got, long want) {
-        if (got != want) {
-            wrong++;
-            System.out.println(call + " answered " + got + ", due is " + want);
+        private void dueRow() {
+            calls += callsForRow();
+            int[] want = model.row.stream().mapToInt(Integer::intValue).toArray();
+            int[] got = new int[want.length];
+            for (int k = 0; k < got.length; k++) got[k] = net.rowAt(k);
+            due("row()", net.row(), want.length);
+            due("rowAt(" + want.length + ")", net.rowAt(want.length), -1);
+            due("length()", net.length(), model.length);
+            if (!Arrays.equals(got, want)) {
+                due("the row is " + Arrays.toString(got) + " for " + Arrays.toString(want), 0, 1);
+            }
+        }
+
+        private void due(String call, long got, long want) {
+            if (got != want) {
+                wrong++;
+                System.out.println(name + ", call " + calls + ": " + call
+                        + " answered " + got + ", due is " + want);
+            }
         }
     }
 }

@@ -81,13 +81,17 @@ public final class TimeNetPromisesTest {
         due("new: off(0)", net.off(0), false);
         due("new: on(0)", net.on(0), TimeNet.NONE);
         due("new: slack(0)", net.slack(0), TimeNet.NONE);
-        for (int i = 0; i < 20; i++) {
-            for (int j = 0; j < 20; j++) {
-                due("new: bound(" + i + ", " + j + ")", net.bound(i, j), i == j ? 0 : Long.MAX_VALUE);
-                due("new: steps(" + i + ", " + j + ")", net.steps(i, j), i == j ? 0 : TimeNet.NONE);
-            }
-            due("new: earliest(" + i + ")", net.earliest(i), i == 0 ? 0 : Long.MIN_VALUE);
+        for (int i = 0; i < 20; i++) newObjectFrom(i);
+    }
+
+    // On an object of its own for each point, as one is good for 512 calls.
+    private static void newObjectFrom(int i) {
+        TimeNet net = new TimeNet();
+        for (int j = 0; j < 20; j++) {
+            due("new: bound(" + i + ", " + j + ")", net.bound(i, j), i == j ? 0 : Long.MAX_VALUE);
+            due("new: steps(" + i + ", " + j + ")", net.steps(i, j), i == j ? 0 : TimeNet.NONE);
         }
+        due("new: earliest(" + i + ")", net.earliest(i), i == 0 ? 0 : Long.MIN_VALUE);
     }
 
     // Promise 2
